@@ -423,12 +423,12 @@ public final class PassagePapers {
         need(many >= 1 && many <= 20);
         need(isVoyage(q, k, weeks));
         need(what >= 0 && what <= 2);
-        int least = Integer.MAX_VALUE;
+        int least = 0;
         int most = 0;
         int nobody = 0;
         for (int i = 0; i < many; i++) {
             sailed.sail(ledger, seed + i, q, k, weeks);
-            least = Math.min(least, sailed.hungry());
+            least = i == 0 ? sailed.hungry() : Math.min(least, sailed.hungry());
             most = Math.max(most, sailed.hungry());
             if (sailed.hungry() == 0) {
                 nobody++;
@@ -1175,7 +1175,7 @@ public final class PassagePapers {
             return Math.max(0, register.roomOf(taker) - boundTo(taker));
         }
 
-        private void writePaper(int signer) {
+        void writePaper(int signer) {
             int placed = state.get(State.PLACED, signer);
             put(paper, Law.YEARS, register.yearsOf(signer));
             put(paper, Law.ADDED, state.get(State.ADDED, signer));
@@ -1192,8 +1192,8 @@ public final class PassagePapers {
             return lawOf(which).asksFor(paper);
         }
 
-        int asksHad(int signer, int years, int added) {
-            writePaper(signer);
+        /** Of the paper that was written last, had it these years and months. */
+        int asksHad(int years, int added) {
             put(paper, Law.YEARS, years);
             put(paper, Law.ADDED, added);
             return courtLaw.asksFor(paper);
@@ -1670,9 +1670,10 @@ public final class PassagePapers {
 
         void find(Ledger ledger, Book book, int signer) {
             clear();
+            ledger.writePaper(signer);
             for (int years = 1; years <= 9; years++) {
                 for (int added = 0; added <= 24; added++) {
-                    int asks = ledger.asksHad(signer, years, added);
+                    int asks = ledger.asksHad(years, added);
                     if (book.isRightFor(asks)) {
                         note(100 * years + added, asks);
                     }
@@ -1709,7 +1710,7 @@ public final class PassagePapers {
         void chooseWeek(Book book) {
             int asksMore = 0;
             int mostAlike = 0;
-            leftAtWorst = Integer.MAX_VALUE;
+            leftAtWorst = many;
             for (int asks = ASKS_MOST; asks >= 0; asks--) {
                 int worst = Math.max(mostAlike, many - asksMore);
                 if (asks <= SERVICE_MOST && worst <= leftAtWorst && !book.hasLine(asks)) {
@@ -1726,7 +1727,8 @@ public final class PassagePapers {
      * BEST. Kin who are ashore go as one unit. A way's score is all that is given, times 2 to the
      * 24, less the way itself, three bits a unit, the first unit highest (0 not placed, 1 taker 0,
      * ..): so the greatest score is the most given and, of alike ones, the first way. The scores
-     * stand by how much room each taker has left; units are brought in from the last to the first.
+     * stand by how much room each taker has left; units are brought in from the last to the first,
+     * each only where no more room is used than the units ahead of it can use.
      */
     private static final class Placing {
         private static final int ROOMS_MOST = 3125;
@@ -1742,6 +1744,7 @@ public final class PassagePapers {
         private final int[] weights = new int[TAKERS_MOST];
         private int units = 0;
         private int takers = 0;
+        private int used = 0;
         private int total = 0;
         private int placed = 0;
         private int way = 0;
@@ -1764,8 +1767,10 @@ public final class PassagePapers {
             for (int room = 0; room <= last && room < scores.length; room++) {
                 scores[room] = 0L;
             }
+            int ahead = ledger.countOf(ASHORE);
             for (int unit = units - 1; unit >= 0; unit--) {
-                bringIn(unit, last);
+                ahead -= at(sizes, unit);
+                bringIn(unit, last, ahead);
             }
             readWay(last >= 0 && last < scores.length ? scores[last] : 0L);
         }
@@ -1810,10 +1815,10 @@ public final class PassagePapers {
         }
 
         private int gatherRooms(Ledger ledger) {
+            int ashore = ledger.countOf(ASHORE);
             int weight = 1;
             for (int taker = 0; taker < takers; taker++) {
-                put(rooms, taker, ledger.roomLeft(taker));
-                put(left, taker, at(rooms, taker));
+                put(rooms, taker, Math.min(ashore, ledger.roomLeft(taker)));
                 put(weights, taker, weight);
                 weight *= at(rooms, taker) + 1;
             }
@@ -1821,12 +1826,13 @@ public final class PassagePapers {
         }
 
         /** From the most room down: the scores of less room are still those without this unit. */
-        private void bringIn(int unit, int last) {
+        private void bringIn(int unit, int last, int ahead) {
+            used = 0;
             for (int taker = 0; taker < takers; taker++) {
                 put(left, taker, at(rooms, taker));
             }
             for (int room = last; room >= 0; room--) {
-                if (room < scores.length) {
+                if (used <= ahead && room < scores.length) {
                     scores[room] = bestScore(unit, room);
                 }
                 takeOneRoom();
@@ -1853,11 +1859,14 @@ public final class PassagePapers {
 
         private void takeOneRoom() {
             for (int taker = 0; taker < takers; taker++) {
-                if (at(left, taker) > 0) {
-                    put(left, taker, at(left, taker) - 1);
+                int more = at(left, taker);
+                if (more > 0) {
+                    put(left, taker, more - 1);
+                    used++;
                     return;
                 }
                 put(left, taker, at(rooms, taker));
+                used -= at(rooms, taker);
             }
         }
 
@@ -1920,7 +1929,7 @@ public final class PassagePapers {
 
         void keepImage(State state) {
             int own = images * ROWS_OF_IMAGE + WORKS_MOST;
-            if (own < 0 || own >= imageRows.length) {
+            if (own < WORKS_MOST || own >= imageRows.length) {
                 return;
             }
             state.saveTo(imageRows[own]);

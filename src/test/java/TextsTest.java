@@ -198,6 +198,9 @@ public final class TextsTest {
         lawValue("((((((6))))))", 6);
         lawValue("((((((6))))))+((((((6))))))", 12);
         lawValue("least[(most[(least[(6),7]),6]),9]", 6);
+        // As many values wait at once as can: three for each of the six that are open.
+        lawValue("1+1*least[9,".repeat(6) + "1+1*2" + "]".repeat(6), 9);
+        lawValue("1" + "+1".repeat(74), 75);
         // 999 * 999 * 999 * 999 wraps in 32 bits to -287163887, cut to 0 as it is below it.
         lawValue("999*999*999*999", 0);
         lawValue("0-999*999*999*999", 999);

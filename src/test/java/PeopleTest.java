@@ -381,6 +381,7 @@ public final class PeopleTest {
         Bench.due("level", x.level(9), 2);
         Bench.due("n at most", x.level(1), 1);
         Bench.due("level of 0", x.level(0), 0);
+        Bench.due("level of 99", x.level(99), 2);
         Bench.illegal("enough 100", () -> x.enough(100));
         Bench.illegal("enough -1", () -> x.enough(-1));
         Bench.illegal("level 100", () -> x.level(100));

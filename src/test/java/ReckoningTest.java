@@ -68,6 +68,8 @@ public final class ReckoningTest {
         Bench.due("grows past all bounds", x.loan(9999, 0, 100), -1);
         Bench.due("nothing owed", x.loan(0, 0, 100), 0);
         Bench.due("600 weeks", x.loan(600, 1, 0), 600);
+        Bench.due("the most of each", x.loan(9999, 999, 100), -1);
+        Bench.due("the most to pay", x.loan(999, 999, 0), 1);
         Bench.due("601 weeks", x.loan(601, 1, 0), -1);
         Bench.due("cut: 9 by 100 of 1000 is 0", x.loan(9, 1, 100), 9);
         Bench.illegal("f 10000", () -> x.loan(10000, 0, 0));
@@ -103,6 +105,10 @@ public final class ReckoningTest {
         Bench.due("first", x.bids(3, 10, 10, 1), 303);
         Bench.due("together", x.bids(3, 10, 10, 2), 6);
         Bench.due("0, 9, 8", x.bids(0, 9, 8, 2), 8);
+        // Both would bid one more than the other one up to 20, where each has half of 79.
+        Bench.due("the most of each", x.bids(20, 99, 99, 1), 2020);
+        Bench.due("the most of each", x.bids(20, 99, 99, 2), 78);
+        Bench.due("the least of each", x.bids(0, 0, 0, 0), 1);
         // v 1, w 0, bids 0 to 1: 0/0: 0 and 0; 0/1: 0 and -1; 1/0: 0 and 0; 1/1: 0 and 0 (cut).
         Bench.due("1, 1, 0", x.bids(1, 1, 0, 0), 3);
         Bench.due("first", x.bids(1, 1, 0, 1), 0);
@@ -127,6 +133,8 @@ public final class ReckoningTest {
         Bench.due("less", x.has(1, 2, 9), 0);
         Bench.due("alike below 0, cut", x.has(9, 9, 0), -4);
         Bench.due("more than it is", x.has(99, 0, 0), -99);
+        Bench.due("the most of each", x.has(99, 99, 99), 0);
+        Bench.due("the least of each", x.has(0, 0, 0), 0);
         Bench.illegal("own 100", () -> x.has(100, 0, 0));
         Bench.illegal("own -1", () -> x.has(-1, 0, 0));
         Bench.illegal("other 100", () -> x.has(0, 100, 0));

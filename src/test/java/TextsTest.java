@@ -259,6 +259,9 @@ public final class TextsTest {
 
     private static void workFaults() {
         workFault("week;weeks;", -9, 5);
+        workFault("weekz;", -9, 0);
+        workFault("week{;", -9, 4);
+        workFault("`week;", -9, 0);
         workFault("week;week", -9, 9);
         workFault("week week;", -9, 5);
         workFault("place 2 0;", -8, 6);

@@ -1551,7 +1551,8 @@ public final class PassagePapers {
             refused = 0;
         }
 
-        void runPart(Ledger ledger, int from, int to, int open) {
+        // Private, as LANGUAGE.md (8) asks of methods that call one another: PassagePapers may call it.
+        private void runPart(Ledger ledger, int from, int to, int open) {
             for (int i = from; i < to && begun < BEGUN_MOST; i = at(behind, i)) {
                 begun++;
                 if (at(kinds, i) == AGAIN) {
